@@ -2,11 +2,12 @@
 public final class PoundCat {
     public static final int BAD = -1, FULL = -2, FINDING = -3, STATE = -4, SPENT = -6, NONE = -9;
 
+    private static final int ALLOWED = 0;
     private static final int NOTHING = 1, BEYOND = 2, UNLIKE = 3, NOUGHT = 4, SIZE = 5;
     private static final int ROW_COUNT = 6, ROW_PLACES = 40, TEXT_COUNT = 4, TEXT_PLACES = 60;
     private static final int MOST_CATS = 6, MOST_DEEDS = 40, KEPT_COUNT = 3;
     private static final int CAT = 0, MOUSER = 1, MOULTER = 2, KITTEN = 3, HEIR = 4, STUFFED = 5;
-    private static final int KIND_COUNT = 6, NO_KIND = -1;
+    private static final int KIND_COUNT = 6, NO_KIND = -1, LAST_TRAIT = 4, LAST_COUNT = 11;
     private static final int LEAST_WEIGHT = 1, MOST_WEIGHT = 200, MOST_SACK = 1200;
     private static final int MOST_AHEAD = 60, LEDGER_HOURS = 40, LEDGER_PLACES = 16;
     private static final int MOST_MEALS = 20, PENCE_A_POUND = 10, MOST_POUNDS = 9;
@@ -38,12 +39,9 @@ public final class PoundCat {
     }
 
     public int lay(int r, int i, int v) {
-        if (!rowShelf.hasNumber(r)) {
-            return BAD;
-        }
-        int found = placeFinding(rowShelf, r, i);
-        if (found != 0) {
-            return told.answerFinding(found);
+        int refusal = refusePlace(rowShelf, r, i);
+        if (refusal != ALLOWED) {
+            return refusal;
         }
         told.asked = rowShelf.get(r, i);
         rowShelf.set(r, i, v);
@@ -51,23 +49,18 @@ public final class PoundCat {
     }
 
     public int at(int r, int i) {
-        if (!rowShelf.hasNumber(r)) {
-            return BAD;
-        }
-        int found = placeFinding(rowShelf, r, i);
-        if (found != 0) {
-            return told.answerFinding(found);
+        int refusal = refusePlace(rowShelf, r, i);
+        if (refusal != ALLOWED) {
+            return refusal;
         }
         told.asked = rowShelf.get(r, i);
         return 1;
     }
 
     public int tear(int r) {
-        if (!rowShelf.hasNumber(r)) {
-            return BAD;
-        }
-        if (!rowShelf.isThere(r)) {
-            return told.answerFinding(NOTHING);
+        int refusal = refuseMissing(rowShelf, r);
+        if (refusal != ALLOWED) {
+            return refusal;
         }
         rowShelf.remove(r);
         return 1;
@@ -91,11 +84,9 @@ public final class PoundCat {
     }
 
     public int mean(int r) {
-        if (!rowShelf.hasNumber(r)) {
-            return BAD;
-        }
-        if (!rowShelf.isThere(r)) {
-            return told.answerFinding(NOTHING);
+        int refusal = refuseMissing(rowShelf, r);
+        if (refusal != ALLOWED) {
+            return refusal;
         }
         int size = rowShelf.sizeOf(r);
         if (size < 1) {
@@ -110,12 +101,9 @@ public final class PoundCat {
     }
 
     public int put(int t, int i, int v) {
-        if (!textShelf.hasNumber(t)) {
-            return BAD;
-        }
-        int found = placeFinding(textShelf, t, i);
-        if (found != 0) {
-            return told.answerFinding(found);
+        int refusal = refusePlace(textShelf, t, i);
+        if (refusal != ALLOWED) {
+            return refusal;
         }
         int was = textShelf.get(t, i);
         textShelf.set(t, i, (byte) v);
@@ -123,21 +111,17 @@ public final class PoundCat {
     }
 
     public int fault(int t) {
-        if (!textShelf.hasNumber(t)) {
-            return BAD;
-        }
-        if (!textShelf.isThere(t)) {
-            return told.answerFinding(NOTHING);
+        int refusal = refuseMissing(textShelf, t);
+        if (refusal != ALLOWED) {
+            return refusal;
         }
         return reader.faultOf(textShelf, t);
     }
 
     public int town(int t) {
-        if (!textShelf.hasNumber(t)) {
-            return BAD;
-        }
-        if (!textShelf.isThere(t)) {
-            return told.answerFinding(NOTHING);
+        int refusal = refuseMissing(textShelf, t);
+        if (refusal != ALLOWED) {
+            return refusal;
         }
         if (reader.faultOf(textShelf, t) != NONE) {
             return STATE;
@@ -147,7 +131,7 @@ public final class PoundCat {
     }
 
     public int cat(int i, int what) {
-        if (!now.isCat(i) || what < 0 || what > 4) {
+        if (!now.isCat(i) || !isWithin(what, 0, LAST_TRAIT)) {
             return BAD;
         }
         told.asked = now.trait(i, what);
@@ -155,7 +139,7 @@ public final class PoundCat {
     }
 
     public int mark(int i, int kind) {
-        if (!now.isCat(i) || kind <= CAT || kind >= KIND_COUNT) {
+        if (!now.isCat(i) || !isWithin(kind, MOUSER, STUFFED)) {
             return BAD;
         }
         if (!Kind.isOf(now.kindOf[i], kind)) {
@@ -200,7 +184,7 @@ public final class PoundCat {
     }
 
     public int buy(int n) {
-        if (n < 1 || n > MOST_POUNDS) {
+        if (!isWithin(n, 1, MOST_POUNDS)) {
             return BAD;
         }
         if (now.cats == 0) {
@@ -214,7 +198,7 @@ public final class PoundCat {
     }
 
     public int sell(int n) {
-        if (n < 1 || n > MOST_POUNDS) {
+        if (!isWithin(n, 1, MOST_POUNDS)) {
             return BAD;
         }
         if (now.cats == 0) {
@@ -338,7 +322,7 @@ public final class PoundCat {
         if (now.cats == 0) {
             return STATE;
         }
-        lookAhead(now.ruler, n);
+        lookAtPound(n);
         int most = 0;
         int best = NONE;
         for (int a = 0; a <= n; a++) {
@@ -361,7 +345,7 @@ public final class PoundCat {
         if (now.cats == 0) {
             return STATE;
         }
-        lookAhead(now.ruler, n);
+        lookAtPound(n);
         int most = -1;
         int first = 0;
         for (int t = 0; t <= n; t++) {
@@ -474,23 +458,17 @@ public final class PoundCat {
     // ---- 6 by ledgers
 
     public int kinds(int i, int r) {
-        if (!now.isCat(i) || !rowShelf.hasNumber(r)) {
-            return BAD;
-        }
-        int found = ledgerFinding(r);
-        if (found != 0) {
-            return told.answerFinding(found);
+        int refusal = refuseLedger(i, r);
+        if (refusal != ALLOWED) {
+            return refusal;
         }
         return kindsFitting(i, r);
     }
 
     public int weights(int i, int r) {
-        if (!now.isCat(i) || !rowShelf.hasNumber(r)) {
-            return BAD;
-        }
-        int found = ledgerFinding(r);
-        if (found != 0) {
-            return told.answerFinding(found);
+        int refusal = refuseLedger(i, r);
+        if (refusal != ALLOWED) {
+            return refusal;
         }
         int many = 0;
         int least = NONE;
@@ -505,12 +483,9 @@ public final class PoundCat {
     }
 
     public int test(int i, int r) {
-        if (!now.isCat(i) || !rowShelf.hasNumber(r)) {
-            return BAD;
-        }
-        int found = ledgerFinding(r);
-        if (found != 0) {
-            return told.answerFinding(found);
+        int refusal = refuseLedger(i, r);
+        if (refusal != ALLOWED) {
+            return refusal;
         }
         int set = kindsFitting(i, r);
         if (set == 0) {
@@ -543,10 +518,10 @@ public final class PoundCat {
         // A heavier one never ends lighter, so to feed and to frighten the one that rules is always best.
         int weight = now.pound();
         for (int turn = 0; turn < n; turn++) {
-            weight = Kind.held(weight + now.mealAdds(now.ruler));
+            weight = Kind.held(weight + now.rulerMeal());
             weight = Kind.held(weight - FRIGHT);
         }
-        return Kind.afterHour(now.kindOf[now.ruler], weight, now.hour);
+        return Kind.afterHour(now.rulerKind(), weight, now.hour);
     }
 
     // ---- 8 chances, lots
@@ -658,12 +633,12 @@ public final class PoundCat {
 
     public long digest() {
         long h = 17;
-        for (int what = 0; what <= 11; what++) {
+        for (int what = 0; what <= LAST_COUNT; what++) {
             h = 31 * h + count(what);
         }
         h = 31 * h + now.pence;
         for (int i = 0; i < now.cats; i++) {
-            for (int what = 0; what <= 4; what++) {
+            for (int what = 0; what <= LAST_TRAIT; what++) {
                 h = 31 * h + now.trait(i, what);
             }
         }
@@ -691,15 +666,42 @@ public final class PoundCat {
         return n;
     }
 
-    private static int placeFinding(Shelf shelf, int r, int i) {
-        if (!shelf.isThere(r)) {
-            return NOTHING;
+    private int refuseMissing(Shelf shelf, int r) {
+        if (!shelf.hasNumber(r)) {
+            return BAD;
         }
-        return shelf.hasRun(r, i, 1) ? 0 : BEYOND;
+        return shelf.isThere(r) ? ALLOWED : told.answerFinding(NOTHING);
+    }
+
+    private int refusePlace(Shelf shelf, int r, int i) {
+        int refusal = refuseMissing(shelf, r);
+        if (refusal != ALLOWED) {
+            return refusal;
+        }
+        return shelf.hasRun(r, i, 1) ? ALLOWED : told.answerFinding(BEYOND);
+    }
+
+    private int refuseLedger(int i, int r) {
+        if (!now.isCat(i)) {
+            return BAD;
+        }
+        int refusal = refuseMissing(rowShelf, r);
+        if (refusal != ALLOWED) {
+            return refusal;
+        }
+        int size = rowShelf.sizeOf(r);
+        if (size % 2 != 0 || size > LEDGER_PLACES) {
+            return told.answerFinding(SIZE);
+        }
+        return holdsPairs(r) ? ALLOWED : told.answerFinding(UNLIKE);
     }
 
     private void lookAhead(int i, int n) {
         outlook.fill(now.kindOf[i], now.weight[i], now.hour, n);
+    }
+
+    private void lookAtPound(int n) {
+        outlook.fill(now.rulerKind(), now.pound(), now.hour, n);
     }
 
     /**
@@ -711,10 +713,10 @@ public final class PoundCat {
         int weight = now.pound();
         for (int t = 0; t < n; t++) {
             if (isFedAhead(fed, n, t)) {
-                weight = Kind.held(weight + now.mealAdds(now.ruler));
+                weight = Kind.held(weight + now.rulerMeal());
                 worth -= MEAL_COST;
             }
-            weight = Kind.afterHour(now.kindOf[now.ruler], weight, now.hour + t);
+            weight = Kind.afterHour(now.rulerKind(), weight, now.hour + t);
             worth += weight;
         }
         return worth;
@@ -749,21 +751,15 @@ public final class PoundCat {
         return many;
     }
 
-    private int ledgerFinding(int r) {
-        if (!rowShelf.isThere(r)) {
-            return NOTHING;
-        }
+    private boolean holdsPairs(int r) {
         int size = rowShelf.sizeOf(r);
-        if (size % 2 != 0 || size > LEDGER_PLACES) {
-            return SIZE;
-        }
         for (int i = 0; i + 1 < size; i += 2) {
             if (!isWithin(rowShelf.get(r, i), 0, LEDGER_HOURS)
                     || !isWithin(rowShelf.get(r, i + 1), LEAST_WEIGHT, MOST_WEIGHT)) {
-                return UNLIKE;
+                return false;
             }
         }
-        return 0;
+        return true;
     }
 
     private boolean fitsLedger(int kind, int weight, int r) {
@@ -1123,6 +1119,14 @@ public final class PoundCat {
             return isCat(ruler) ? weight[ruler] : 0;
         }
 
+        int rulerKind() {
+            return isCat(ruler) ? kindOf[ruler] : CAT;
+        }
+
+        int rulerMeal() {
+            return isCat(ruler) ? mealAdds(ruler) : 0;
+        }
+
         int mealAdds(int i) {
             return Kind.mealAdds(kindOf[i], appetite[i]);
         }
@@ -1199,7 +1203,9 @@ public final class PoundCat {
                     pence += PENCE_A_POUND * n;
                     break;
                 default:
-                    ruler = n;
+                    if (isCat(n)) {
+                        ruler = n;
+                    }
                     break;
             }
         }
