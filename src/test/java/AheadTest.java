@@ -23,6 +23,7 @@ public final class AheadTest {
         DUE.due("weighs() changes nothing", x.digest(), digest);
         x.hour();
         DUE.due("HOUR 1, weighs(0, 1)", x.weighs(0, 1), 21);
+        DUE.due("HOUR 1, weighs(2, 2)", x.weighs(2, 2), 14);
         DUE.due("HOUR 1, weighs(2, 4)", x.weighs(2, 4), 11);
         PoundCat y = Due.townOf("d30k999");
         DUE.due("weighs(0, 50)", y.weighs(0, 50), 199);

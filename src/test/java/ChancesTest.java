@@ -68,6 +68,10 @@ public final class ChancesTest {
         odds(x, 0, 2, 2, 3, 3, 4);
         odds(x, 0, 1, 2, 3, 1, 1);
         odds(x, 0, 3, 1, 3, 3, 4);
+        PoundCat y = Due.townOf("d30o505");
+        y.hour();
+        mid(y, 0, 3, 5, 45, 1);
+        mid(y, 0, 4, 5, 43, 1);
     }
 
     private static void chanceRefusals() {

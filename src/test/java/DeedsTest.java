@@ -138,6 +138,15 @@ public final class DeedsTest {
         DUE.refused(x, "full: rule(0)", () -> x.rule(0), PoundCat.STATE);
         DUE.refused(x, "full: rule(6)", () -> x.rule(6), PoundCat.BAD);
         DUE.due("full: keep(0)", x.keep(0), 40);
+        x.undo(38);
+        x.buy(1);
+        DUE.due("sell(1), the 40th", x.sell(1), 0);
+        x.undo(39);
+        DUE.due("rule(1), the 40th", x.rule(1), 25);
+        x.undo(39);
+        DUE.due("feed(0), the 40th", x.feed(0), 24);
+        x.undo(39);
+        DUE.due("hour(), the 40th", x.hour(), 19);
         DUE.due("undo(39)", x.undo(39), 1);
         DUE.due("hour() then", x.hour(), 19);
         DUE.due("on(0)", x.on(0), 40);
@@ -213,6 +222,10 @@ public final class DeedsTest {
         DUE.due("undo(1), ruler", x.count(5), 0);
         DUE.due("on(2) is as it was", x.on(2), 3);
         DUE.due("on(2) is as it was, digest()", x.digest(), third);
+        x.undo(0);
+        x.feed(5);
+        DUE.due("on(2) behind another first DEED", x.on(2), 3);
+        DUE.due("on(2) behind another first DEED, digest()", x.digest(), third);
         x.undo(0);
         DUE.due("keep(2) over another", x.keep(2), 0);
         x.hour();

@@ -4,7 +4,7 @@ import java.util.Random;
 
 /** All promises: runs of calls by a fixed seed, each answered by the class and by the plainer Model. */
 public final class ModelTest {
-    private static final int RUNS = 3000;
+    private static final int USUAL_RUNS = 3000;
     private static final int STEPS = 60;
     private static final int[] EDGES = {-1, 0, 1, 2, 3, 5, 6, 9, 10, 12, 13, 20, 21, 40, 41, 60, 61, 99,
         200, 201, 1200, 1201, Integer.MAX_VALUE, Integer.MAX_VALUE - 1, Integer.MIN_VALUE};
@@ -19,15 +19,16 @@ public final class ModelTest {
     }
 
     public static void main(String[] args) {
+        int runs = args.length > 0 ? Integer.parseInt(args[0]) : USUAL_RUNS;
         int wrong = 0;
-        for (int run = 0; run < RUNS && wrong < 5; run++) {
+        for (int run = 0; run < runs && wrong < 5; run++) {
             ModelTest test = new ModelTest(run);
             if (!test.agrees()) {
                 wrong++;
                 System.out.println("ModelTest: run " + run + ": " + String.join("; ", test.calls));
             }
         }
-        System.out.println("ModelTest: " + RUNS + " runs, " + wrong + " not as due");
+        System.out.println("ModelTest: " + runs + " runs, " + wrong + " not as due");
         if (wrong != 0) {
             System.exit(1);
         }

@@ -76,6 +76,7 @@ public final class RowsTest {
         PoundCat x = new PoundCat();
         x.row(4, 2);
         DUE.due("tear(4)", x.tear(4), 1);
+        DUE.due("tear(4), digest()", x.digest(), new PoundCat().digest());
         DUE.due("count(9)", x.count(9), 0);
         DUE.found(x, "tear(4) again", () -> x.tear(4), 1);
         DUE.found(x, "at(4, 0) torn", () -> x.at(4, 0), 1);
@@ -126,6 +127,8 @@ public final class RowsTest {
         DUE.told(x, "mean(0) of great ones", () -> x.mean(0), 1, Integer.MAX_VALUE);
         Due.fillRow(x, 0, Integer.MIN_VALUE, Integer.MIN_VALUE);
         DUE.told(x, "mean(0) of small ones", () -> x.mean(0), 1, Integer.MIN_VALUE);
+        Due.fillRow(x, 0, -8);
+        DUE.told(x, "mean(0) of one", () -> x.mean(0), 1, -8);
         x.row(0, 0);
         DUE.found(x, "mean(0) of none", () -> x.mean(0), 4);
         DUE.found(x, "mean(1)", () -> x.mean(1), 1);

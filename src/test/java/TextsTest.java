@@ -88,7 +88,13 @@ public final class TextsTest {
         reads("d10c/01", 4);
         reads("d10c101c101c101c101c101c101c101", 27);
         reads("d10c101c101c101c101c101c101  x", 29);
+        reads(" ".repeat(60), 60);
+        reads(" ".repeat(53) + "d10c101", PoundCat.NONE);
+        reads(" ".repeat(57) + "d10", 60);
         PoundCat x = new PoundCat();
+        Due.write(x, 0, "d10c101");
+        Due.write(x, 0, "d10");
+        DUE.due("fault of a shorter TEXT than there was", x.fault(0), 3);
         Due.write(x, 0, "d10c101");
         x.put(0, 3, 0);
         DUE.due("fault with a byte 0", x.fault(0), 3);

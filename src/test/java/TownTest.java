@@ -19,7 +19,9 @@ public final class TownTest {
         x.hour();
         x.buy(2);
         x.rule(1);
-        x.keep(1);
+        for (int k = 0; k < 3; k++) {
+            x.keep(k);
+        }
         Due.write(x, 1, "d07k050k060s090");
         DUE.due("town(1)", x.town(1), 3);
         int[] due = {3, 0, 0, 0, 5, 0, 7, 0, 3, 0, 2, 0};
@@ -27,7 +29,10 @@ public final class TownTest {
             DUE.due("town(1), count(" + what + ")", x.count(what), due[what]);
         }
         DUE.due("town(1), pence()", x.pence(), 0);
-        DUE.found(x, "town(1), on(1)", () -> x.on(1), 1);
+        for (int k = 0; k < 3; k++) {
+            int place = k;
+            DUE.found(x, "town(1), on(" + k + ")", () -> x.on(place), 1);
+        }
         x.hour();
         x.keep(0);
         Due.write(x, 0, "d07");

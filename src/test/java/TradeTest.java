@@ -91,6 +91,10 @@ public final class TradeTest {
         planned(y, 2, 199 + 200, none, none);
         y.hour();
         planned(y, 2, 200 + 199, none, none);
+        PoundCat z = Due.townOf("d30o502");
+        z.hour();
+        planned(z, 2, 49 + 48 - 3, 0, none);
+        planned(z, 3, 49 + 50 + 49 - 6, 0, 0, none);
     }
 
     private static void planRefusals() {
