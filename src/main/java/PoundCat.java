@@ -229,7 +229,8 @@ public final class PoundCat {
     }
 
     public int undo(int n) {
-        if (n < 0 || n >= now.deedCount) {
+        // From behind the last DEED on there is none to undo: that is no refusal, but 0.
+        if (!isWithin(n, 0, now.deedCount)) {
             return BAD;
         }
         int undone = now.deedCount - n;

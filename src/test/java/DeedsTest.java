@@ -11,6 +11,7 @@ public final class DeedsTest {
         rulers();
         fullTown();
         undone();
+        noneUndone();
         undoneBeyondBounds();
         kept();
         DUE.finish();
@@ -170,7 +171,8 @@ public final class DeedsTest {
         x.rule(2);
         digests[6] = x.digest();
         DUE.refused(x, "undo(-1)", () -> x.undo(-1), PoundCat.BAD);
-        DUE.refused(x, "undo(6), no such DEED", () -> x.undo(6), PoundCat.BAD);
+        DUE.due("undo(6), behind the last DEED", x.undo(6), 0);
+        DUE.due("undo(6), digest()", x.digest(), digests[6]);
         DUE.refused(x, "undo(7)", () -> x.undo(7), PoundCat.BAD);
         DUE.refused(x, "undo(max)", () -> x.undo(Integer.MAX_VALUE), PoundCat.BAD);
         DUE.due("undo(5)", x.undo(5), 1);
@@ -183,6 +185,30 @@ public final class DeedsTest {
         DUE.due("done again, digest()", x.digest(), digests[2]);
         DUE.due("undo(0)", x.undo(0), 2);
         DUE.due("undo(0), digest()", x.digest(), digests[0]);
+    }
+
+    private static void noneUndone() {
+        PoundCat x = new PoundCat();
+        long fresh = x.digest();
+        DUE.due("a new object: undo(0)", x.undo(0), 0);
+        DUE.due("a new object: undo(0), digest()", x.digest(), fresh);
+        PoundCat y = Due.townOf(ALL_KINDS);
+        long began = y.digest();
+        DUE.due("no DEEDS yet: undo(0)", y.undo(0), 0);
+        DUE.due("no DEEDS yet: undo(0), digest()", y.digest(), began);
+        DUE.refused(y, "no DEEDS yet: undo(1)", () -> y.undo(1), PoundCat.BAD);
+        DUE.refused(y, "no DEEDS yet: undo(-1)", () -> y.undo(-1), PoundCat.BAD);
+        y.hour();
+        DUE.due("undo(0) of one", y.undo(0), 1);
+        DUE.due("undo(0) again", y.undo(0), 0);
+        DUE.due("undo(0) again, digest()", y.digest(), began);
+        for (int d = 0; d < 40; d++) {
+            y.feed(0);
+        }
+        long full = y.digest();
+        DUE.due("full: undo(40)", y.undo(40), 0);
+        DUE.due("full: undo(40), digest()", y.digest(), full);
+        DUE.refused(y, "full: undo(41)", () -> y.undo(41), PoundCat.BAD);
     }
 
     private static void undoneBeyondBounds() {

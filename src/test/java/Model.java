@@ -408,7 +408,7 @@ final class Model {
     }
 
     int undo(int n) {
-        if (out(n, 0, deeds() - 1)) return BAD;
+        if (out(n, 0, deeds())) return BAD;
         int undone = deeds() - n;
         story = new ArrayList<>(story.subList(0, n + 1));
         return undone;
