@@ -6,6 +6,8 @@ import java.util.Random;
 public final class ModelTest {
     private static final int USUAL_RUNS = 3000;
     private static final int STEPS = 60;
+    /** An object is used for 512 calls at most; a step takes 50 at most. */
+    private static final int LAST_STEP_BY = 512 - 50;
     private static final int[] EDGES = {-1, 0, 1, 2, 3, 5, 6, 9, 10, 12, 13, 20, 21, 40, 41, 60, 61, 99,
         200, 201, 1200, 1201, Integer.MAX_VALUE, Integer.MAX_VALUE - 1, Integer.MIN_VALUE};
 
@@ -38,7 +40,7 @@ public final class ModelTest {
         if (random.nextInt(20) != 0 && !found()) {
             return false;
         }
-        for (int step = 0; step < STEPS; step++) {
+        for (int step = 0; step < STEPS && calls.size() <= LAST_STEP_BY; step++) {
             if (!same(step)) {
                 return false;
             }
@@ -116,7 +118,7 @@ public final class ModelTest {
     }
 
     private int anyCat() {
-        int cats = x.count(0);
+        int cats = m.count(0);
         return any(0, Math.max(0, cats - 1));
     }
 
@@ -158,7 +160,7 @@ public final class ModelTest {
             case 9:
                 return check("rule(" + i + ")", x.rule(i), m.rule(i));
             case 10:
-                int d = any(0, Math.max(0, x.count(2)));
+                int d = any(0, Math.max(0, m.count(2)));
                 return random.nextInt(3) != 0 || check("undo(" + d + ")", x.undo(d), m.undo(d));
             case 11:
                 return check("keep(" + k + ")", x.keep(k), m.keep(k));
@@ -209,7 +211,7 @@ public final class ModelTest {
                 return check("fright(" + n + ")", x.fright(n), m.fright(n));
             case 14:
                 n = any(0, 6);
-                v = Math.max(-1, x.weighs(i, 0)) + random.nextInt(9) - 4;
+                v = Math.max(-1, m.weighs(i, 0)) + random.nextInt(9) - 4;
                 return check("odds(" + i + ", " + v + ", " + n + ", " + p + ")", x.odds(i, v, n, p), m.odds(i, v, n, p));
             case 15:
                 n = any(0, 6);
@@ -229,8 +231,8 @@ public final class ModelTest {
     /** Most often a weight that some set has. */
     private boolean sameSack() {
         int v = 0;
-        for (int i = 0; i < x.count(0); i++) {
-            v += random.nextBoolean() ? x.weighs(i, 0) : 0;
+        for (int i = 0; i < m.count(0); i++) {
+            v += random.nextBoolean() ? m.weighs(i, 0) : 0;
         }
         if (random.nextInt(4) == 0) {
             v = any(0, 1200);
@@ -254,7 +256,7 @@ public final class ModelTest {
             }
             for (int p = 0; p < pairs; p++) {
                 int hours = random.nextInt(random.nextBoolean() ? 4 : 41);
-                int weight = x.weighs(i, hours) + (random.nextInt(5) == 0 ? random.nextInt(5) - 2 : 0);
+                int weight = m.weighs(i, hours) + (random.nextInt(5) == 0 ? random.nextInt(5) - 2 : 0);
                 if (!lay(r, 2 * p, hours) || !lay(r, 2 * p + 1, weight)) {
                     return false;
                 }
