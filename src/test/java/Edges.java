@@ -1,13 +1,7 @@
-import java.io.IOException;
-import java.nio.file.Files;
-import java.nio.file.Path;
-import java.util.ArrayList;
 import java.util.Arrays;
-import java.util.LinkedHashMap;
 import java.util.List;
-import java.util.Map;
-import java.util.regex.Matcher;
-import java.util.regex.Pattern;
+import java.util.Set;
+import java.util.TreeSet;
 
 /**
  * Rows of calls at the edges that the document names. Each row stands under the words of the document
@@ -22,13 +16,10 @@ final class Edges {
             + " buy(2); keep(1); hour(); feed(4); rule(4); tear(5); odds(0, 20, 6, 4); at(0, 1)";
     /** 40 DEEDS: three pounds were bought (60 GOODS by 20), and 39 MEALS given to the STUFFED one. */
     static final String FORTY = ALL_KINDS + "; buy(3); 39 * feed(5)";
-    private static final Path DOCUMENT = Path.of("../shared/DOC.md");
 
     private final String name;
-    private final Map<Integer, String> promises = new LinkedHashMap<>();
-    private final Map<Integer, boolean[]> tried = new LinkedHashMap<>();
-    private String terms = "";
-    private int promise = 0;
+    private final Set<Integer> begun = new TreeSet<>();
+    private String heading = Document.TERMS;
     private String words = "";
     private String script = "";
     private Picture picture = null;
@@ -38,45 +29,28 @@ final class Edges {
 
     Edges(String name) {
         this.name = name;
-        readDocument();
     }
 
-    private void readDocument() {
-        String whole;
-        try {
-            whole = Files.readString(DOCUMENT);
-        } catch (IOException e) {
-            throw new IllegalStateException("the document is missing: " + DOCUMENT, e);
-        }
-        terms = plain(whole.substring(whole.indexOf("## Terms"), whole.indexOf("## Promise 1:")));
-        Matcher m = Pattern.compile("## Promise ([0-9]+): [^\n]*\n\n`[^`]*`: ([^\n]*)").matcher(whole);
-        while (m.find()) {
-            promises.put(Integer.valueOf(m.group(1)), plain(m.group(2)));
-        }
-    }
-
-    private static String plain(String text) {
-        return text.replaceAll("\\s+", " ").trim();
-    }
-
-    /** The next sentences are those of a promise. */
+    /** The next sentences are those of a promise; each letter of it has to stand in a sentence of this test. */
     void promise(int number) {
-        endSentence();
-        promise = number;
-        given("");
-        tried.put(number, new boolean[promises.get(number).length()]);
+        section(Document.promiseHeading(number));
+        begun.add(number);
     }
 
     /** The next sentences are those of "Terms" and of what stands behind them. */
     void terms() {
+        section(Document.TERMS);
+    }
+
+    void section(String of) {
         endSentence();
-        promise = 0;
+        heading = of;
         given("");
     }
 
     private void endSentence() {
         if (rowsOfSentence == 0) {
-            row(words, "has no rows", promise);
+            row(words, "has no rows", heading);
         }
         rowsOfSentence = 1;
     }
@@ -86,16 +60,8 @@ final class Edges {
         endSentence();
         rowsOfSentence = 0;
         words = quoted;
-        String text = promise == 0 ? terms : promises.get(promise);
-        int at = text.indexOf(quoted);
-        if (at < 0) {
-            row(quoted, "are not in the document", promise);
-        }
-        while (at >= 0) {
-            if (promise != 0) {
-                Arrays.fill(tried.get(promise), at, at + quoted.length(), true);
-            }
-            at = text.indexOf(quoted, at + 1);
+        if (!Document.quote(heading, quoted)) {
+            row(quoted, "are not in the document", heading);
         }
     }
 
@@ -117,13 +83,18 @@ final class Edges {
         rowsOfSentence++;
         if (due.length == 1 || !due[0].equals(due[1])) {
             wrong++;
-            System.out.println(name + ": " + (promise == 0 ? "terms" : "promise " + promise) + " \"" + words
+            System.out.println(name + ": " + heading + " \"" + words
                     + "\": [" + script + "] " + call + " " + what + " " + Arrays.toString(due) + " (got, due)");
         }
     }
 
     private void same(String call, String what, long got, long want) {
         row(call, what, got, want);
+    }
+
+    /** What is to be seen otherwise than by one call of a made object. */
+    void holds(String what, Object got, Object want) {
+        row(what, "is so", got, want);
     }
 
     /** The answer alone; what the call changes is looked at by rows that are given it. */
@@ -218,11 +189,9 @@ final class Edges {
     /** Each letter of the promises that were begun has to stand in a sentence with rows. */
     void finish() {
         endSentence();
-        for (int number : tried.keySet()) {
-            List<String> missed = missed(promises.get(number), tried.get(number));
-            promise = number;
-            words = "";
-            script = "";
+        for (int number : begun) {
+            section(Document.promiseHeading(number));
+            List<String> missed = Document.unquoted(heading);
             if (!missed.isEmpty()) {
                 row(missed.toString(), "has no rows", number);
             }
@@ -231,21 +200,5 @@ final class Edges {
         if (wrong != 0 || rows == 0) {
             System.exit(1);
         }
-    }
-
-    private static List<String> missed(String text, boolean[] covered) {
-        List<String> parts = new ArrayList<>();
-        StringBuilder part = new StringBuilder();
-        for (int i = 0; i <= text.length(); i++) {
-            if (i < text.length() && !covered[i]) {
-                part.append(text.charAt(i));
-            } else {
-                if (!part.toString().isBlank()) {
-                    parts.add(part.toString().trim());
-                }
-                part.setLength(0);
-            }
-        }
-        return parts;
     }
 }

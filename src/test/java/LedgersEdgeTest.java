@@ -37,7 +37,7 @@ public final class LedgersEdgeTest {
     private static void pairs() {
         EDGES.terms();
         EDGES.sentence("(a ROW of pairs, 0 to 8: in how many HOURS from now on 0 .. 40, what it WEIGHED then 1 .. 200:"
-                + " NOTHING; SIZE; UNLIKE; behind BAD)");
+                + " NOTHING; SIZE; UNLIKE; behind BAD).");
         // A STUFFED one of 20; 0 to 8 pairs that are true of it.
         for (int n = 0; n <= 16; n += 2) {
             given("town 'd10s200'", times(n, 40, 20));
